@@ -448,12 +448,15 @@ public final class Detentionbureau {
             } else if (note.what == Note.BELONGS) {
                 belonging = pointsOfBelonging(note.first, note.second);
             } else if (note.what == Note.VISITED && isOfLatest(note.first)) {
-                manyFindings |= notesOf(file, Note.FOUND, note.visit) > MANY_FINDINGS;
-                detentions += notesOf(file, Note.DETAINED, note.visit) > 0
-                        && notesOf(file, Note.VOTED_FOR, note.visit) < VOTES_TO_DECIDE ? 1 : 0;
+                manyFindings = manyFindings || notesOf(file, Note.FOUND, note.visit) > MANY_FINDINGS;
+                detentions += countsByFile(file, note.visit) ? 1 : 0;
             }
         }
         return make + belonging + pointsOfVisits(manyFindings, detentions);
+    }
+
+    private static boolean countsByFile(ArrayList<Note> file, int visit) {
+        return notesOf(file, Note.DETAINED, visit) > 0 && notesOf(file, Note.VOTED_FOR, visit) < VOTES_TO_DECIDE;
     }
 
     private static int notesOf(ArrayList<Note> file, int what, int visit) {

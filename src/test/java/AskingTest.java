@@ -9,11 +9,14 @@ final class AskingTest {
         promise18PointsOfVisits();
         promise18Rest();
         promise19PointsAnew();
+        promise19Appeals();
+        promise19LongFile();
         promise20IsGround();
         promise21OfVisit();
         promise22ListSmall();
         promise22ListBlack();
         promise22ListWhite();
+        promise22ListAll();
         promise22ListFlagThen();
         promise22ListAndVisit();
         promise23Missed();
@@ -163,6 +166,37 @@ final class AskingTest {
         points(x, "changed often", 0, 4);
     }
 
+    private static void promise19Appeals() {
+        Detentionbureau x = Harbour.withRule();
+        Harbour.cargo(x, 0, 0, 0);
+        int won = Harbour.detention(x, 0, 0);
+        points(x, "a detention", 0, 1);
+        x.appeal(won);
+        x.vote(won, false);
+        x.vote(won, true);
+        points(x, "a vote for it", 0, 1);
+        x.vote(won, true);
+        points(x, "two votes for it", 0, 0);
+        int lost = Harbour.detention(x, 0, 0);
+        x.appeal(lost);
+        x.vote(lost, true);
+        x.vote(lost, false);
+        x.vote(lost, false);
+        points(x, "two votes against it", 0, 1);
+    }
+
+    /** As many notes as the calls of an object can make, the last one being what counts. */
+    private static void promise19LongFile() {
+        Detentionbureau x = new Detentionbureau();
+        x.suspend(3, true);
+        x.ship(0, 1000, 0, 0, 0);
+        for (int i = 0; i < 508; i++) {
+            x.changes(0, 0, 0);
+        }
+        x.changes(0, 0, 3);
+        CHECK.due("by the last of 509 changes", x.pointsAnew(0), 1);
+    }
+
     private static void promise20IsGround() {
         Detentionbureau x = new Detentionbureau();
         CHECK.noIndex("ship 0 of none", () -> x.isGround(0, 0));
@@ -280,6 +314,37 @@ final class AskingTest {
             Harbour.stay(x, 0, 0);
         }
         CHECK.due("60 visits, 1 detention: 270 x 270 is not above 1762 x 60", x.list(2), Detentionbureau.GREY);
+    }
+
+    private static int listByWords(long n, long d) {
+        long x = 100 * d - 7 * n - 50;
+        long y = 7 * n - 50 - 100 * d;
+        if (n < 6) {
+            return Detentionbureau.UNLISTED;
+        }
+        if (x > 0 && x * x > 1762 * n) {
+            return Detentionbureau.BLACK;
+        }
+        return y > 0 && y * y > 1762 * n ? Detentionbureau.WHITE : Detentionbureau.GREY;
+    }
+
+    /** Every count of visits with up to 30 detentions; no ship but the first six is banned by these. */
+    private static void promise22ListAll() {
+        for (int d = 0; d <= 30; d++) {
+            Detentionbureau x = Harbour.withRule();
+            for (int ship = 0; ship < 12; ship++) {
+                Harbour.cargo(x, 0, 2, 0);
+            }
+            for (int i = 0; i < d; i++) {
+                Harbour.detention(x, i % 12, 0);
+            }
+            for (int n = d; n <= 60; n++) {
+                CHECK.due("list of " + n + " visits, " + d + " detentions", x.list(2), listByWords(n, d));
+                if (n < 60) {
+                    Harbour.stay(x, 11, 0);
+                }
+            }
+        }
     }
 
     private static void promise22ListFlagThen() {

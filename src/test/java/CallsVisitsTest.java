@@ -16,6 +16,7 @@ final class CallsVisitsTest {
         promise11Old();
         promise11High();
         promise11ClearGrounds();
+        promise11FirstPutOff();
         promise12Finds();
         promise12Places();
         promise13Mends();
@@ -228,6 +229,20 @@ final class CallsVisitsTest {
         CHECK.due("nor by the call behind that", depth(x, 0), DETAILED);
         x.mends(second, 0, false);
         CHECK.due("put off and mended", depth(x, 0), INITIAL);
+    }
+
+    private static void promise11FirstPutOff() {
+        Detentionbureau x = Harbour.withRule();
+        Harbour.cargo(x, 0, 0, 0);
+        Harbour.cargo(x, 0, 0, 0);
+        int visit = Harbour.callAndVisit(x, 0, 0);
+        x.finds(visit, 0, 1);
+        x.finds(visit, 0, 1);
+        x.mends(visit, 1, true);
+        CHECK.due("put off in another ship's visit", depth(x, 1), INITIAL);
+        x.leaves(0);
+        x.changes(0, 1, 1);
+        CHECK.due("put off in the very first visit", depth(x, 0), DETAILED);
     }
 
     private static void promise12Finds() {

@@ -161,6 +161,7 @@ final class CertificatesTest {
 
     private static void promise8AheadOfTheLastDay() {
         Detentionbureau x = withShip();
+        x.pass(400);
         x.issue(0, CLASS, 365);
         x.issue(0, OIL, 366);
         x.issue(0, LINE, 730);
