@@ -4,10 +4,8 @@
  */
 final class WalkTest {
     private static final int RUNS = 1500;
-    private static final int CALLS = 512;
     private static final int LONG_RUNS = 12;
     private static final int LONG_CALLS = 20000;
-    private static final long OFFSET = 1L << 40;
     /** In a plan: the latest visit as the call's time comes. */
     private static final int LATEST = -77777;
 
@@ -15,14 +13,11 @@ final class WalkTest {
     private static final int[] TERMS = {1, 30, 365, 366, 700, 730, 731, 1000, 1825, 1825};
     private static final int[] EXTREMES = {Integer.MIN_VALUE, -1, Integer.MAX_VALUE, 13, 1 << 30, -4381};
 
-    private static final String[] NAMES = {"pass", "ship", "changes", "suspend", "rule", "issue", "endorse",
-        "calls", "leaves", "visit", "finds", "mends", "detain", "release", "appeal", "vote", "ofShip",
-        "pointsAnew", "isGround", "ofVisit", "list", "missed", "knew"};
-    /** How often each is tried, by its place among the names. */
+    /** How often each call is tried. */
     private static final int[] OFTEN = {10, 2, 3, 2, 2, 9, 6, 12, 9, 12, 16, 12, 9, 9, 5, 8, 20, 6, 3, 10, 4, 2, 5};
 
     private final Check check;
-    private final long[] answered = new long[NAMES.length];
+    private final long[] answered = new long[Calls.count()];
     private final java.util.ArrayList<int[]> plan = new java.util.ArrayList<>();
     private long seed;
     private int ships;
@@ -39,10 +34,10 @@ final class WalkTest {
         Check check = new Check();
         WalkTest walk = new WalkTest(check);
         for (int run = 1; run <= RUNS; run++) {
-            walk.walk(run, new Model(), CALLS);
+            walk.walk(run, new Model(), Calls.MOST_CALLS);
         }
-        for (int call = 0; call < NAMES.length; call++) {
-            check.due(NAMES[call] + " was answered now and then", walk.answered[call] > RUNS, true);
+        for (int call = 0; call < Calls.count(); call++) {
+            check.due(Calls.name(call) + " was answered now and then", walk.answered[call] > RUNS, true);
         }
         for (int run = 1; run <= LONG_RUNS; run++) {
             walk.walk(-run, null, LONG_CALLS);
@@ -121,7 +116,7 @@ final class WalkTest {
             add(10, LATEST, 0, 8 + below(3));
             add(10, LATEST, 0, 1 + below(7));
             add(12, LATEST);
-            add(11, LATEST, 0, 1);
+            add(11, LATEST, 0, 0);
             add(11, LATEST, 1, below(2));
             add(13, ship);
             if (below(3) == 0) {
@@ -178,14 +173,14 @@ final class WalkTest {
             case 1: return new int[] {below(2) == 0 ? number(-10000, days) : number(-4400, -4300),
                 number(100, 2000), number(0, 2), number(0, 1), number(0, 3)};
             case 2: return new int[] {aShip(), number(0, below(2) == 0 ? 5 : 1), number(0, 3)};
-            case 3: return new int[] {number(0, 3), below(3)};
+            case 3: return new int[] {number(0, 3), below(3) == 0 ? 1 : 0};
             case 4: return call == 0 ? new int[] {0, 0, 7, 0, 0}
                 : new int[] {number(0, 3), number(0, 1500), number(1, 7), number(0, 600), number(0, 300)};
             case 5: return new int[] {aShip(), number(0, 4), oneOf(TERMS)};
             case 6: return new int[] {aShip(), number(0, 4)};
             case 7: return new int[] {aShip(), number(0, 3)};
             case 10: return new int[] {aVisit(), below(3) == 0 ? number(0, 9) : 0, number(1, 10)};
-            case 11: return new int[] {aVisit(), number(0, 3), below(3)};
+            case 11: return new int[] {aVisit(), number(0, 3), below(3) == 0 ? 1 : 0};
             case 12: case 14: return new int[] {aVisit()};
             case 15: return new int[] {aVisit(), below(2)};
             case 16: return new int[] {aShip(), number(0, 7)};
@@ -199,18 +194,19 @@ final class WalkTest {
     }
 
     private void step(int run, int call, int which, int[] a, Detentionbureau x, Model model) {
-        String told = "run " + run + ", call " + call + ": " + NAMES[which] + java.util.Arrays.toString(a);
-        long got;
-        try {
-            got = ask(x, which, a);
+        String told = "run " + run + ", call " + call + ": " + Calls.name(which) + java.util.Arrays.toString(a);
+        int[] whole = new int[a.length + 1];
+        whole[0] = which;
+        System.arraycopy(a, 0, whole, 1, a.length);
+        long got = Calls.answer(x, whole);
+        if (got < Calls.THREW) {
             learn(which, got);
-        } catch (RuntimeException e) {
-            got = OFFSET + why(e);
-            check.due(told + " threw " + e, documented(which, why(e)), true);
+        } else {
+            check.due(told + " " + Calls.told(got) + ", as the face tells", documented(which, got), true);
         }
         if (model != null) {
             long want = due(model, which, a);
-            answered[which] += want < OFFSET ? 1 : 0;
+            answered[which] += want < Calls.THREW ? 1 : 0;
             check.due(told, got, want);
         }
     }
@@ -225,51 +221,16 @@ final class WalkTest {
         }
     }
 
-    private static int why(RuntimeException e) {
-        Class<?> thrown = Check.isOwn(e) ? e.getClass() : null;
-        return thrown == IndexOutOfBoundsException.class ? Model.NO_INDEX
-                : thrown == IllegalArgumentException.class ? Model.NO_ARGUMENT
-                : thrown == IllegalStateException.class ? Model.NO_STATE : 9;
-    }
-
-    private static boolean documented(int which, int why) {
-        Class<?> want = why == Model.NO_INDEX ? IndexOutOfBoundsException.class
-                : why == Model.NO_ARGUMENT ? IllegalArgumentException.class
-                : why == Model.NO_STATE ? IllegalStateException.class : null;
+    private static boolean documented(int which, long thrown) {
+        Class<?> want = thrown == Calls.NO_INDEX ? IndexOutOfBoundsException.class
+                : thrown == Calls.NO_ARGUMENT ? IllegalArgumentException.class
+                : thrown == Calls.NO_STATE ? IllegalStateException.class : null;
         for (java.lang.reflect.Method method : Detentionbureau.class.getMethods()) {
-            if (method.getName().equals(NAMES[which])) {
+            if (method.getName().equals(Calls.name(which))) {
                 return java.util.List.of(method.getExceptionTypes()).contains(want);
             }
         }
         return false;
-    }
-
-    private static long ask(Detentionbureau x, int which, int[] a) {
-        switch (which) {
-            case 0: return x.pass(a[0]);
-            case 1: return x.ship(a[0], a[1], a[2], a[3], a[4]);
-            case 2: return x.changes(a[0], a[1], a[2]);
-            case 3: return x.suspend(a[0], a[1] == 0) ? 1 : 0;
-            case 4: return x.rule(a[0], a[1], a[2], a[3], a[4]);
-            case 5: return x.issue(a[0], a[1], a[2]);
-            case 6: return x.endorse(a[0], a[1]);
-            case 7: return x.calls(a[0], a[1]);
-            case 8: return x.leaves(a[0]) ? 1 : 0;
-            case 9: return x.visit(a[0]);
-            case 10: return x.finds(a[0], a[1], a[2]);
-            case 11: return x.mends(a[0], a[1], a[2] == 0);
-            case 12: return x.detain(a[0]);
-            case 13: return x.release(a[0]);
-            case 14: x.appeal(a[0]); return 0;
-            case 15: return x.vote(a[0], a[1] == 0);
-            case 16: return x.ofShip(a[0], a[1]);
-            case 17: return x.pointsAnew(a[0]);
-            case 18: return x.isGround(a[0], a[1]) ? 1 : 0;
-            case 19: return x.ofVisit(a[0], a[1]);
-            case 20: return x.list(a[0]);
-            case 21: return x.missed(a[0]);
-            default: return x.knew(a[0], a[1], a[2]);
-        }
     }
 
     private static long due(Model m, int which, int[] a) {
@@ -278,7 +239,7 @@ final class WalkTest {
                 case 0: return m.pass(a[0]);
                 case 1: return m.ship(a[0], a[1], a[2], a[3], a[4]);
                 case 2: return m.changes(a[0], a[1], a[2]);
-                case 3: return m.suspend(a[0], a[1] == 0);
+                case 3: return m.suspend(a[0], a[1] == 1);
                 case 4: return m.rule(a[0], a[1], a[2], a[3], a[4]);
                 case 5: return m.issue(a[0], a[1], a[2]);
                 case 6: return m.endorse(a[0], a[1]);
@@ -286,11 +247,11 @@ final class WalkTest {
                 case 8: return m.leaves(a[0]);
                 case 9: return m.visit(a[0]);
                 case 10: return m.finds(a[0], a[1], a[2]);
-                case 11: return m.mends(a[0], a[1], a[2] == 0);
+                case 11: return m.mends(a[0], a[1], a[2] == 1);
                 case 12: return m.detain(a[0]);
                 case 13: return m.release(a[0]);
                 case 14: return m.appeal(a[0]);
-                case 15: return m.vote(a[0], a[1] == 0);
+                case 15: return m.vote(a[0], a[1] == 1);
                 case 16: return m.ofShip(a[0], a[1]);
                 case 17: return m.pointsAnew(a[0]);
                 case 18: return m.isGround(a[0], a[1]);
@@ -300,7 +261,7 @@ final class WalkTest {
                 default: return m.knew(a[0], a[1], a[2]);
             }
         } catch (Model.Refused e) {
-            return OFFSET + e.why;
+            return Calls.THREW + e.why;
         }
     }
 }
